@@ -1,0 +1,108 @@
+/** What the tests share: what is due, what is refused, and texts for the TAPE. */
+final class Due {
+    private static int wrong = 0;
+
+    private Due() {
+    }
+
+    static void is(String call, long want, long got) {
+        if (want != got) {
+            wrong++;
+            System.out.println(call + " answered " + got + ", due is " + want);
+        }
+    }
+
+    static void is(String call, boolean want, boolean got) {
+        is(call, want ? 1 : 0, got ? 1 : 0);
+    }
+
+    static void outside(String call, Runnable run) {
+        refused(call, IndexOutOfBoundsException.class, run);
+    }
+
+    static void illegal(String call, Runnable run) {
+        refused(call, IllegalArgumentException.class, run);
+    }
+
+    static void full(String call, Runnable run) {
+        refused(call, UnsupportedOperationException.class, run);
+    }
+
+    static void another(String call, Runnable run) {
+        refused(call, java.util.NoSuchElementException.class, run);
+    }
+
+    private static void refused(String call, Class<?> want, Runnable run) {
+        Class<?> got = null;
+        try {
+            run.run();
+        } catch (RuntimeException e) {
+            got = e.getClass();
+        }
+        if (got != want) {
+            wrong++;
+            System.out.println(call + " threw " + got + ", due is " + want);
+        }
+    }
+
+    /** Puts a text on the TAPE, which must be empty. */
+    static void type(PlateTown x, String text) {
+        for (int from = 0; from < text.length(); from += 20) {
+            int[] numbers = new int[5];
+            for (int i = 0; i < 20; i++) {
+                int sign = from + i < text.length() ? text.charAt(from + i) : 0;
+                numbers[i / 4] |= sign << 24 - 8 * (i % 4);
+            }
+            x.feed(numbers[0], numbers[1], numbers[2], numbers[3], numbers[4]);
+        }
+        x.end(text.length());
+    }
+
+    static int tell(PlateTown x, String text) {
+        type(x, text);
+        return x.town();
+    }
+
+    static int lease(PlateTown x, String text) {
+        type(x, text);
+        return x.lease();
+    }
+
+    static int walk(PlateTown x, String text, int cell, int year) {
+        type(x, text);
+        return x.walk(cell, year);
+    }
+
+    static PlateTown town(String... texts) {
+        PlateTown x = new PlateTown();
+        for (String text : texts) {
+            tell(x, text);
+        }
+        return x;
+    }
+
+    static void wrongTown(PlateTown x, String text, int fault) {
+        type(x, text);
+        illegal("town '" + text + "'", x::town);
+        is("fault of town '" + text + "'", fault, x.fault());
+    }
+
+    static void wrongLease(PlateTown x, String text, int fault) {
+        type(x, text);
+        illegal("lease '" + text + "'", x::lease);
+        is("fault of lease '" + text + "'", fault, x.fault());
+    }
+
+    static void wrongWalk(PlateTown x, String text, int fault) {
+        type(x, text);
+        illegal("walk '" + text + "'", () -> x.walk(40, 0));
+        is("fault of walk '" + text + "'", fault, x.fault());
+    }
+
+    static void close() {
+        if (wrong != 0) {
+            System.out.println(wrong + " answers are not as due");
+            System.exit(1);
+        }
+    }
+}
