@@ -29,12 +29,12 @@ public final class PlateTown {
 
     public PlateTown() {
         tape = new Tape();
-        townText = new TownText();
-        leaseText = new LeaseText();
-        walkText = new WalkText();
         now = new Town();
         draft = new Town();
         kept = new Town();
+        townText = new TownText(draft);
+        leaseText = new LeaseText();
+        walkText = new WalkText();
         almanac = new Almanac(now);
         clerk = new Clerk();
         exchange = new Exchange(now, almanac);
@@ -61,7 +61,6 @@ public final class PlateTown {
     public int town() throws IllegalArgumentException, UnsupportedOperationException {
         townText.takeFrom(tape);
         draft.copyFrom(now);
-        townText.writeOnto(draft);
         wrongByte = townText.wrongIn();
         needRightText();
         needRoom(now.texts < MOST_TEXTS);
@@ -181,7 +180,7 @@ public final class PlateTown {
         int to = now.lets.get(let, Town.TO);
         almanac.open();
         int sum = 0;
-        for (int year = now.lets.get(let, Town.FROM); year <= to; year++) {
+        for (int year = now.lets.get(let, Town.FROM); year <= to && year < YEARS; year++) {
             sum += rentIn(lease, house, year);
         }
         return sum;
@@ -200,7 +199,7 @@ public final class PlateTown {
         int window = now.promises.get(promise, Town.PROMISE_WINDOW);
         int to = now.promises.get(promise, Town.TO);
         almanac.open();
-        for (int year = now.promises.get(promise, Town.FROM); year <= to; year++) {
+        for (int year = now.promises.get(promise, Town.FROM); year <= to && year < YEARS; year++) {
             if (!almanac.isLit(window, NOON_HOUR, year)) {
                 return year;
             }
@@ -353,7 +352,7 @@ public final class PlateTown {
         int to = now.families.get(family, Town.TO);
         almanac.open();
         int sum = 0;
-        for (int year = now.families.get(family, Town.FROM); year <= to; year++) {
+        for (int year = now.families.get(family, Town.FROM); year <= to && year < YEARS; year++) {
             sum += almanac.lightOfHouse(house, year);
         }
         return sum;
@@ -690,7 +689,11 @@ public final class PlateTown {
             }
         }
 
+        /** The new row; NONE without room. */
         int add(int first, int second, int third, int fourth) {
+            if (!hasRoom()) {
+                return NONE;
+            }
             int row = rows;
             rows++;
             set(row, 0, first);
@@ -1143,8 +1146,7 @@ public final class PlateTown {
         static final int WAYS = WORD + 25;
         private static final int MOST_DIGITS = 3;
         private static final int MOST_LINES = 12;
-        private static final String WORDS = "house window start rate bar sea gusts wind calm pay less void if or and not "
-                + "year light height turn level noon frost windy go north east south west ";
+        private static final String WORDS = "house window start rate bar sea gusts wind calm pay less void if or and not year light height turn level noon frost windy go north east south west ";
 
         private final int[] things;
         private final int[] begins;
@@ -1298,22 +1300,17 @@ public final class PlateTown {
         private static final int WIND = TOWN_LINES + 7;
         private static final int CALM = TOWN_LINES + 8;
         private static final int HIGHEST_UP = 29;
-        private Town town;
+        private final Town town;
 
-        TownText() {
-            town = null;
-        }
-
-        /** Of a wrong text some may come to stand there. */
-        void writeOnto(Town draft) {
-            town = draft;
+        /** The town on which LINES are written, of a wrong text those ahead of the wrong byte. */
+        TownText(Town town) {
+            this.town = town;
         }
 
         @Override
         boolean readLine() {
             int word = present();
-            if (town == null || word == HOUSE && !town.houses.hasRoom()
-                    || word == WINDOW && !town.windows.hasRoom()) {
+            if (word == HOUSE && !town.houses.hasRoom() || word == WINDOW && !town.windows.hasRoom()) {
                 return false;
             }
             if (take(HOUSE, CALM) == NONE) {
@@ -1380,7 +1377,7 @@ public final class PlateTown {
             if (number == NONE) {
                 return false;
             }
-            for (int year = from; year <= to; year++) {
+            for (int year = from; year <= to && year < YEARS; year++) {
                 town.setWind(year, isCalm ? -number : number);
             }
             return true;
@@ -1737,7 +1734,14 @@ public final class PlateTown {
                 for (int year = from; year <= to && year < lights.length; year++) {
                     sum += lights[year];
                 }
-                goods[MOST * family + house] = sum;
+                setGood(family, house, sum);
+            }
+        }
+
+        private void setGood(int family, int house, int sum) {
+            int place = MOST * family + house;
+            if (place >= 0 && place < goods.length) {
+                goods[place] = sum;
             }
         }
 

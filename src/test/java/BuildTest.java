@@ -108,6 +108,9 @@ public final class BuildTest {
         Due.is("takes none", 0, x.takes(1, 5, 0, 0));
         Due.is("takes some", 0b10001, x.takes(1, 6, 0, 0));
         Due.is("takes more", 0b10101, x.takes(1, 7, 0, 0));
+        PlateTown east = Due.town("rate 0;house 40 1;house 41 1;window 0 2 0");
+        Due.is("loses one hour", 1, east.lost(1, 1, 0, 5, 5));
+        Due.is("takes one hour", 1, east.takes(1, 1, 5, 5));
         Due.illegal("takes 0", () -> x.takes(1, 0, 0, 0));
         Due.illegal("takes 30", () -> x.takes(1, 30, 0, 0));
         Due.illegal("takes on 30", () -> x.takes(2, 1, 0, 0));
@@ -123,9 +126,11 @@ public final class BuildTest {
     }
 
     private static void gable() {
-        PlateTown x = Due.town("rate 0;house 40 1;house 31 1;house 80 30;house 22 2;window 0 4 0;window 0 4 9;window 0 4 29");
+        PlateTown x = Due.town("rate 0;house 40 1;house 31 1;house 80 30;house 22 2;window 0 4 0;window 0 4 9;"
+                + "window 0 4 29;window 0 4 11");
         Due.is("gable", 5, x.gable(1, 0, 0, 9));
         Due.is("gable for UP 9", 14, x.gable(1, 1, 0, 9));
+        Due.is("gable for UP 11", 16, x.gable(1, 3, 0, 9));
         Due.is("gable for UP 29", 29, x.gable(1, 2, 0, 9));
         Due.is("gable of its own house", 29, x.gable(0, 0, 0, 9));
         Due.is("gable on 30", 0, x.gable(2, 0, 0, 9));
@@ -137,7 +142,7 @@ public final class BuildTest {
         Due.illegal("gable 1 to 0", () -> x.gable(0, 0, 1, 0));
         Due.outside("gable house 4", () -> x.gable(4, 0, 1, 0));
         Due.outside("gable house -1", () -> x.gable(-1, 0, 0, 0));
-        Due.outside("gable window 3", () -> x.gable(0, 3, 1, 0));
+        Due.outside("gable window 4", () -> x.gable(0, 4, 1, 0));
         Due.outside("gable window -1", () -> x.gable(0, -1, 0, 0));
         Due.outside("gable from -1", () -> x.gable(0, 0, -1, 0));
         Due.outside("gable to 100", () -> x.gable(0, 0, 0, 100));

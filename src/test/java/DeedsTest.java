@@ -190,5 +190,9 @@ public final class DeedsTest {
         Due.is("one window twice", 6, x.twice());
         x.promise(0, 0, 99);
         Due.is("the same twice", 11, x.twice());
+        PlateTown two = Due.town("house 40 5;window 0 4 0");
+        two.promise(0, 0, 1);
+        two.promise(0, 1, 2);
+        Due.is("the first two", 1, two.twice());
     }
 }

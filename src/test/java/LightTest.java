@@ -74,6 +74,10 @@ public final class LightTest {
         slant.build(3, 1);
         Due.is("3 off", false, slant.lit(0, 4, 0));
 
+        PlateTown corner = Due.town("rate 0;house 40 1;window 0 5 0;house 0 13");
+        Due.is("the CELL 0, 13 high", false, corner.lit(0, 10, 0));
+        Due.is("the CELL 0, higher sun", true, corner.lit(0, 9, 0));
+
         PlateTown beyond = Due.town("rate 0;house 8 1;window 0 2 0;house 9 30;house 17 30");
         Due.is("no way around the edge", true, beyond.lit(0, 0, 0));
     }
@@ -134,6 +138,8 @@ public final class LightTest {
         Due.is("with the plate turned, 84 is DIRECTION 6", 0b101, x.houses(0, 1));
         Due.tell(x, "gusts 0");
         Due.is("north-west", 0b111, x.houses(0, 1));
+        PlateTown corner = Due.town("house 3 1;house 0 1");
+        Due.is("a house on CELL 0", 0b10, corner.houses(0, 1));
         PlateTown edge = Due.town("house 9 1;house 8 30");
         Due.is("not around the edge", 0b11, edge.houses(0, 1));
     }

@@ -227,9 +227,11 @@ public final class ModelTest {
         int houses = program.count(0);
         int kind = random.nextInt(12);
         if (kind < 5 && houses < houseLimit || houses == 0 && kind < 8) {
-            things.addAll(List.of("house", upTo(80), String.valueOf(1 + random.nextInt(30))));
+            String cell = random.nextBoolean() ? upTo(80) : String.valueOf(9 * (3 + random.nextInt(3)) + 3 + random.nextInt(3));
+            things.addAll(List.of("house", cell, String.valueOf(1 + random.nextInt(random.nextBoolean() ? 30 : 9))));
         } else if (kind < 8) {
-            things.addAll(List.of("window", upTo(Math.max(0, houses - 1)), upTo(7), upTo(29)));
+            String up = upTo(random.nextBoolean() ? 29 : 2);
+            things.addAll(List.of("window", upTo(Math.max(0, houses - 1)), upTo(7), up));
         } else if (kind < 10) {
             String word = pick("start", "rate", "rate", "rate", "bar", "sea", "gusts");
             things.addAll(List.of(word, upTo(word.equals("rate") ? 20 : 95)));
@@ -242,7 +244,7 @@ public final class ModelTest {
 
     private String leaseText() {
         return lines(lineCount(), things -> {
-            String word = pick("pay", "pay", "less", "void");
+            String word = pick("pay", "pay", "pay", "less", "pay", "less", "pay", "void");
             things.add(word);
             if (!word.equals("void")) {
                 things.add(upTo(pick("9", "99", "999").equals("9") ? 9 : 999));
@@ -307,6 +309,9 @@ public final class ModelTest {
             return text;
         }
         int at = random.nextInt(text.length());
+        if (random.nextInt(3) == 0) {
+            return text.substring(0, at);
+        }
         String put = pick("", " ", ";", "(", "not ", "x", "0", "99", "if", ")", "+", "and noon", "\u00e9", "\0", "A");
         int behind = Math.min(text.length(), at + random.nextInt(3));
         return text.substring(0, at) + put + text.substring(behind);

@@ -29,6 +29,10 @@ public final class TextsTest {
         Due.is("new level", -4, x.level(0, 0));
         Due.is("new rope", 0, x.rope(5, 0));
         Due.is("new fault", -1, x.fault());
+        Due.is("SEA 48, up to a DIRECTION's end", -4, Due.town("start 6").level(4, 0));
+        Due.is("SEA 48, beyond it", -8, Due.town("start 7").level(8, 0));
+        Due.is("GUSTS 72, up to a DIRECTION's end", 0b01, Due.town("start 6;house 1 1;house 2 1").houses(0, 1));
+        Due.is("GUSTS 72, beyond it", 0b11, Due.town("start 7;house 1 1;house 2 1").houses(0, 1));
         Due.is("new undo", -1, x.undo());
         Due.is("new back", false, x.back());
         Due.is("new end 0", true, x.end(0));
@@ -122,6 +126,19 @@ public final class TextsTest {
         Due.wrongTown(x, "hous 5 5", 0);
         Due.wrongTown(x, "pay 5", 0);
         Due.wrongTown(x, "5 house", 0);
+        Due.wrongTown(x, "ratez 1", 0);
+        Due.wrongTown(x, "arate 1", 0);
+        Due.wrongTown(x, "rate house", 5);
+        Due.wrongTown(x, "house 5 5;window", 16);
+        Due.wrongTown(x, "house 5 5;window 0", 18);
+        Due.wrongTown(x, "house 5 5;window 0 0", 20);
+        for (String word : new String[] {"house", "window", "start", "rate", "bar", "sea", "gusts", "wind", "calm"}) {
+            Due.wrongTown(x, word, word.length());
+            Due.wrongTown(x, word + ";", word.length());
+        }
+        Due.wrongTown(x, "wind 5", 6);
+        Due.wrongTown(x, "calm 5 6", 8);
+        Due.wrongTown(x, "calm 5 6;", 8);
         Due.wrongTown(x, "window 0 0 0", 7);
         Due.wrongTown(x, "window 0 0 0;house 5 5", 7);
         Due.wrongTown(x, "house 5 5;window 1 0 0", 17);
@@ -265,6 +282,17 @@ public final class TextsTest {
         Due.wrongLease(x, "void 1", 5);
         Due.wrongLease(x, "void;", 5);
         Due.wrongLease(x, "void if noon<2", 12);
+        Due.wrongLease(x, "void if", 7);
+        Due.wrongLease(x, "void if not", 11);
+        Due.wrongLease(x, "void if not;", 11);
+        Due.wrongLease(x, "void if (", 9);
+        Due.wrongLease(x, "void if go", 8);
+        Due.wrongLease(x, "void if level", 13);
+        Due.wrongLease(x, "void if level+", 14);
+        Due.wrongLease(x, "void if 1<noon", 10);
+        Due.wrongLease(x, "pay house", 4);
+        Due.wrongLease(x, "void if house<1", 8);
+        Due.wrongLease(x, "less", 4);
         Due.is("no lease was right", 0, x.count(2));
     }
 

@@ -97,6 +97,8 @@ public final class WaterTest {
         Due.is("to the house", 31, x.pool(76, 0));
         Due.is("behind the house", 31, x.pool(31, 0));
         Due.is("from the house", 4, x.pool(22, 0));
+        Due.tell(x, "house 0 1");
+        Due.is("to the house on CELL 0", 9, x.pool(72, 0));
         Due.tell(x, "sea 36");
         Due.is("slanting to the corner", 8, x.pool(72, 0));
         Due.is("slanting to the edge", 71, x.pool(79, 0));
