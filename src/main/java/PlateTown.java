@@ -1296,7 +1296,6 @@ public final class PlateTown {
         private static final int WINDOW = TOWN_LINES + 1;
         private static final int START = TOWN_LINES + 2;
         private static final int RATE = TOWN_LINES + 3;
-        private static final int GUSTS = TOWN_LINES + 6;
         private static final int WIND = TOWN_LINES + 7;
         private static final int CALM = TOWN_LINES + 8;
         private static final int HIGHEST_UP = 29;

@@ -81,6 +81,9 @@ public final class DeedsTest {
         Due.is("not of a comparison", true, holds(x, "not 2<1"));
         Due.is("many ors", true, holds(x, "frost or frost or 1>2 or windy"));
         Due.is("many ands", false, holds(x, "noon and windy and 1<2 and frost"));
+        String longest = "pay 7 if 1" + "+1".repeat(190);
+        Due.is("400 bytes, 191 together", 7, rent(x, longest + "<192" + " ".repeat(6), 0, 0));
+        Due.is("not below 191", 0, rent(x, longest + "<191", 0, 0));
         Due.is("six deep", true, holds(x, "(((((noon and not frost)))))"));
     }
 

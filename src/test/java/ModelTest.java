@@ -10,7 +10,7 @@ import java.util.Random;
 /** Long runs of drawn calls: the program must answer what the model answers, the exceptions too. */
 public final class ModelTest {
     private static final int RUNS = 150;
-    private static final int CALLS = 512;
+    private static final int CALLS = 480;
     private static final int ODD = 12;
 
     private final Random random;
