@@ -1,14 +1,36 @@
 /** What the tests share: what is due, what is refused, and texts for the TAPE. */
 final class Due {
     private static int wrong = 0;
+    private static String sentence = "";
 
     private Due() {
     }
 
+    /** The test of one sentence of the document: what fails in it is told under the sentence. */
+    static void edge(String told, Runnable test) {
+        sentence = "[" + told + "] ";
+        try {
+            test.run();
+        } catch (RuntimeException e) {
+            tell("threw " + e);
+        }
+        sentence = "";
+    }
+
+    private static void tell(String what) {
+        wrong++;
+        System.out.println(sentence + what);
+    }
+
     static void is(String call, long want, long got) {
         if (want != got) {
-            wrong++;
-            System.out.println(call + " answered " + got + ", due is " + want);
+            tell(call + " answered " + got + ", due is " + want);
+        }
+    }
+
+    static void is(String call, String want, String got) {
+        if (!want.equals(got)) {
+            tell(call + ": " + got + ", due is " + want);
         }
     }
 
@@ -40,9 +62,15 @@ final class Due {
             got = e.getClass();
         }
         if (got != want) {
-            wrong++;
-            System.out.println(call + " threw " + got + ", due is " + want);
+            tell(call + " threw " + got + ", due is " + want);
         }
+    }
+
+    /** What is done in a town leaves all that the town answers as it was. */
+    static void keeps(PlateTown x, String call, Runnable done) {
+        String before = State.of(x);
+        done.run();
+        is("the town behind " + call, before, State.of(x));
     }
 
     /** Puts a text on the TAPE, which must be empty. */
