@@ -1,3 +1,5 @@
+import java.util.function.IntConsumer;
+
 /** What the tests share: what is due, what is refused, and texts for the TAPE. */
 final class Due {
     private static int wrong = 0;
@@ -52,6 +54,36 @@ final class Due {
 
     static void another(String call, Runnable run) {
         refused(call, java.util.NoSuchElementException.class, run);
+    }
+
+    /** Of numbers from 0 on there are so many: the first and the last are there, and none beside them. */
+    static void bounds(String call, int count, IntConsumer run) {
+        for (int number : new int[] {0, count - 1}) {
+            refused(call + " of " + number, null, () -> run.accept(number));
+        }
+        noSuch(call, count, run);
+    }
+
+    static void noSuch(String call, int count, IntConsumer run) {
+        for (int number : new int[] {-1, count, Integer.MIN_VALUE, Integer.MAX_VALUE}) {
+            outside(call + " of " + number, () -> run.accept(number));
+        }
+    }
+
+    /** YEARS from .. to: both must be there, and the second not below the first. */
+    static void span(String call, Span run) {
+        refused(call + " of all YEARS", null, () -> run.of(0, 99));
+        refused(call + " of the last YEAR", null, () -> run.of(99, 99));
+        refused(call + " of the first YEAR", null, () -> run.of(0, 0));
+        noSuch(call + " from", 100, from -> run.of(from, 99));
+        noSuch(call + " to", 100, to -> run.of(0, to));
+        illegal(call + " from 1 to 0", () -> run.of(1, 0));
+        illegal(call + " from 99 to 98", () -> run.of(99, 98));
+        illegal(call + " from 99 to 0", () -> run.of(99, 0));
+    }
+
+    interface Span {
+        void of(int from, int to);
     }
 
     private static void refused(String call, Class<?> want, Runnable run) {
