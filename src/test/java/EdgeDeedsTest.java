@@ -46,6 +46,17 @@ public final class EdgeDeedsTest {
             Due.is("one of two, the other way", 0, rentBy("void if noon;pay 5;void if frost"));
             Due.is("none holds", 5, rentBy("void if frost;pay 5;void if frost"));
         });
+        Due.edge("RENT: void by that LEASE, HOUSE and YEAR alone", () -> {
+            PlateTown x = town();
+            Due.lease(x, "void if year<5 and height<6;pay 7");
+            Due.lease(x, "pay 8");
+            Due.is("void", 0, x.rent(0, 0, 4));
+            Due.is("a YEAR later", 7, x.rent(0, 0, 5));
+            Due.is("void again", 0, x.rent(0, 0, 4));
+            Due.is("another HOUSE", 7, x.rent(0, 1, 4));
+            Due.is("void once more", 0, x.rent(0, 0, 4));
+            Due.is("another LEASE", 8, x.rent(1, 0, 4));
+        });
         Due.edge("RENT: pay LINES that hold", () -> {
             Due.is("without if", 5, rentBy("pay 5"));
             Due.is("one of two", 5, rentBy("pay 5 if noon;pay 7 if frost"));

@@ -265,6 +265,13 @@ public final class EdgeLeaseTextTest {
             wrong("pay 1 if (noon))", 15);
             wrong("pay 1 if (noon noon)", 15);
         });
+        Due.edge("ATOM: no other word", () -> {
+            for (String word : new String[] {"go", "wind", "window", "house", "north", "if", "pay", "void", "or", "x", "noo"}) {
+                wrong("void if " + word, 8);
+                wrong("void if not " + word, 12);
+                wrong("void if noon and " + word, 17);
+            }
+        });
         Due.edge("noon, frost, windy: no SUM", () -> {
             for (String sight : new String[] {"noon", "frost", "windy"}) {
                 right("void if " + sight);

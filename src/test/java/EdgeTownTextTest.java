@@ -447,6 +447,8 @@ public final class EdgeTownTextTest {
         Due.is("a number ends a word", 1, Due.tell(x, "rate5;start7"));
         Due.is("angle", 12, x.angle(1));
         Due.wrongTown(x, "ratee 5", 0);
+        Due.wrongTown(x, "ratea 5", 0);
+        Due.wrongTown(x, "ratez 5", 0);
         Due.wrongTown(x, "rat 5", 0);
         Due.wrongTown(x, "ra te 5", 0);
         Due.wrongTown(x, "ratestart 5", 0);
