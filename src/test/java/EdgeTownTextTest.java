@@ -397,6 +397,12 @@ public final class EdgeTownTextTest {
         Due.is("angle 1", 8, x.angle(1));
         Due.tell(x, "rate 9");
         Due.is("of a later text", 15, x.angle(1));
+        PlateTown y = Due.town("rate 6;wind 0 0 5;wind 0 0 7");
+        Due.is("wind is told anew", 13, y.angle(1));
+        Due.tell(y, "calm 0 0 2");
+        Due.is("by calm, too", 4, y.angle(1));
+        Due.tell(y, "wind 0 9 1");
+        Due.is("and by wind again", 7, y.angle(1));
     }
 
     private static void windLines() {

@@ -118,8 +118,8 @@ public final class ModelTest {
             int[] odd = {-1, -2, Integer.MAX_VALUE, Integer.MIN_VALUE, 1000, 100, 81, 20, 13, 10, 8, 7, 16, 6, 30};
             return odd[random.nextInt(odd.length)];
         }
-        int houses = Math.max(1, program.count(0));
-        int windows = Math.max(1, program.count(1));
+        int houses = Math.max(1, model.count(0));
+        int windows = Math.max(1, model.count(1));
         int year = random.nextInt(3) == 0 ? random.nextInt(100) : random.nextInt(12);
         switch (method + place) {
             case "feed0", "feed1", "feed2", "feed3", "feed4", "blow0":
@@ -138,13 +138,13 @@ public final class ModelTest {
             case "lit1", "paper1":
                 return random.nextInt(13);
             case "rent0", "let0":
-                return random.nextInt(Math.max(1, program.count(2)));
+                return random.nextInt(Math.max(1, model.count(2)));
             case "due0":
-                return random.nextInt(Math.max(1, program.count(4)));
+                return random.nextInt(Math.max(1, model.count(4)));
             case "broken0":
-                return random.nextInt(Math.max(1, program.count(5)));
+                return random.nextInt(Math.max(1, model.count(5)));
             case "runs0", "uphill0":
-                return random.nextInt(Math.max(1, program.count(6)));
+                return random.nextInt(Math.max(1, model.count(6)));
             case "level0", "drain0", "drain1", "pool0", "walk0":
                 return random.nextInt(81);
             case "name0":
@@ -224,7 +224,7 @@ public final class ModelTest {
     }
 
     private void townLine(List<String> things) {
-        int houses = program.count(0);
+        int houses = model.count(0);
         int kind = random.nextInt(12);
         if (kind < 5 && houses < houseLimit || houses == 0 && kind < 8) {
             String cell = random.nextBoolean() ? upTo(80) : String.valueOf(9 * (3 + random.nextInt(3)) + 3 + random.nextInt(3));
