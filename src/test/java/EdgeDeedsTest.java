@@ -256,6 +256,11 @@ public final class EdgeDeedsTest {
         });
     }
 
+    private static int brokenAtOnce(String text) {
+        PlateTown x = Due.town(text);
+        return x.broken(x.promise(0, 0, 0));
+    }
+
     private static PlateTown fullOfPromises() {
         PlateTown x = town();
         for (int i = 0; i < 16; i++) {
@@ -279,6 +284,11 @@ public final class EdgeDeedsTest {
             x.promise(1, 0, 0);
             Due.is("LIT in other HOURS", 0, x.broken(0));
             Due.is("LIT in HOUR 6", -1, x.broken(1));
+        });
+        Due.edge("BROKEN: in HOUR 6, not in those beside it", () -> {
+            Due.is("LIT in HOUR 5", 0, brokenAtOnce("rate 0;start 5;house 40 1;window 0 2 0"));
+            Due.is("LIT in HOUR 7", 0, brokenAtOnce("rate 0;start 94;house 40 1;window 0 6 0"));
+            Due.is("shaded in both", -1, brokenAtOnce("rate 0;house 40 1;window 0 4 0;house 31 7"));
         });
     }
 

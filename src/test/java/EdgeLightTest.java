@@ -270,6 +270,18 @@ public final class EdgeLightTest {
             PlateTown x = Due.town("rate 0;house 40 1;house 44 1;house 36 1;window 0 0 0;window 0 4 0;window 1 2 0");
             Due.is("the second WINDOW; not in another HOUR; without a WINDOW", 0b001, x.houses(0, 2));
         });
+        Due.edge("NOON: in HOUR 6, not in those beside it", () -> {
+            PlateTown five = Due.town("rate 0;start 5;house 40 1;window 0 2 0");
+            Due.is("HOUR 5", true, five.lit(0, 5, 0));
+            Due.is("NOON by HOUR 5", 0, five.houses(0, 2));
+            PlateTown seven = Due.town("rate 0;start 94;house 40 1;window 0 6 0");
+            Due.is("HOUR 7", true, seven.lit(0, 7, 0));
+            Due.is("NOON by HOUR 7", 0, seven.houses(0, 2));
+            PlateTown six = Due.town("rate 0;house 40 1;window 0 4 0;house 31 7");
+            Due.is("HOUR 5, shaded", false, six.lit(0, 5, 0));
+            Due.is("HOUR 7, shaded", false, six.lit(0, 7, 0));
+            Due.is("NOON by HOUR 6", 0b01, six.houses(0, 2));
+        });
         Due.edge("FROST: no LIGHT", () -> {
             PlateTown x = Due.town("rate 0;house 40 1;house 44 1;house 36 1;window 0 0 0;window 1 0 0;window 1 1 0");
             Due.is("no LIGHT of a WINDOW; two HOURS of one; no WINDOW", 0b101, x.houses(0, 0));
